@@ -23,6 +23,24 @@ public final class PromiseTest {
             + "flange b on base north from 6 wide 4 high 8 up round 1;"
             + "flange c on a east from 0 wide 4 high 6 up round 2;";
 
+    /** A bridge over the fourth flange stands on the line of the fifth bend. */
+    private static final String BRIDGE = "sheet thick 1 base 10 10;tool 10;tool 4;tool 15;allow 1 0;press 1;"
+            + "flange b on base west from 0 wide 10 high 5 up round 1;"
+            + "flange c on b west from 0 wide 10 high 20 up round 1;"
+            + "flange d on c west from 0 wide 10 high 5 up round 1;"
+            + "flange p on base east from 2 wide 4 high 15 down round 1;"
+            + "flange a on p north from 0 wide 15 high 3 up round 1;";
+    /** The third bend goes the wrong way, into the fifth flange; the other way there is room for 4. */
+    private static final String HOOK = "sheet thick 1 base 6 6;tool 6;allow 1 0;press 4;"
+            + "flange a on base north from 0 wide 6 high 4 up round 1;"
+            + "flange c on a north from 0 wide 6 high 4 up round 1;"
+            + "flange d on c north from 0 wide 6 high 2 down round 1;"
+            + "flange s on base south from 0 wide 6 high 5 up round 1;"
+            + "flange t on s south from 0 wide 6 high 3 up round 1;"
+            + "flange e on base east from 0 wide 6 high 1 up round 1;"
+            + "flange f on base west from 0 wide 6 high 1 up round 1;"
+            + "flange g on f west from 0 wide 6 high 1 up round 1;";
+
     private static int wrong;
     private static int promise;
 
@@ -161,6 +179,8 @@ public final class PromiseTest {
         faulty("sheet thick x", 1, 12);
         faulty("sheet thick 1 base 0 1;", 2, 19);
         faulty("sheet thick 1 base 1 61;", 2, 21);
+        faulty("sheet thick 1 base 61 1;", 2, 19);
+        faulty("sheet thick 9 base 1 1;press 1;tool 1;tool 60;", 0, NONE);
         faulty("sheet thick 1 base 9 8", 1, 22);
         faulty("sheet thick 1 base 9 8  ", 1, 24);
         faulty(SHEET + ";", 1, 23);
@@ -193,6 +213,10 @@ public final class PromiseTest {
         faulty(SHEET + "flange a on basex ", 1, 39);
         faulty(SHEET + "flange aB", 1, 31);
         faulty(SHEET + "flange a on base north from 59 wide 1", 4, 59);
+        faulty(SHEET + "flange a on base north from 60 wide 1", 2, 51);
+        faulty(SHEET + "flange a on base top from", 1, 40);
+        faulty(SHEET + "flange a on base north from 8 wide 1 high 61", 2, 65);
+        faulty(SHEET + "flange a on base north from 8 wide 1 high 1 upper", 1, 67);
         faulty(SHEET + "flange a on base north from 5 wide 61", 2, 58);
         faulty(SHEET + "flange a on base north from 8 wide 1 high 0", 2, 65);
         faulty(SHEET + "flange a on base north from 8 wide 1 high 60 up round 10", 2, 77);
@@ -341,6 +365,10 @@ public final class PromiseTest {
         y.allow(1, 2);
         y.allow(2, 0);
         due("a zone without length shares nothing", y.overlap(NONE, 0), 1);
+        SheetFolds z = of(HEAP.replace("wide 4 high 6", "wide 4 high 4").replace("allow 2 1", "allow 2 0")
+                + "flange d on c east from 0 wide 4 high 1 up round 2;");
+        due("not within another piece, either", z.overlap(NONE, 0), 2);
+        due("the second pair", z.overlap(1, 1), 4);
     }
 
     private static void space() {
@@ -441,6 +469,7 @@ public final class PromiseTest {
         x.press(4);
         due("just to the base", x.meets(3, 3), 0);
         due("what hangs over", of(ROLL.replace("high 3", "high 5")).meets(1, 6), 8);
+        due("what stands on the line", of(BRIDGE).meets(5, 7), 8);
     }
 
     private static void tools() {
@@ -482,6 +511,11 @@ public final class PromiseTest {
         due("none", x.orders(), 0);
         due("no bends", of(SHEET).orders(), 1);
         due("without a part", new SheetFolds().orders(), NONE);
+        SheetFolds y = of(BRIDGE);
+        y.lay(7);
+        due("the lowest punch meets what stands on the line", y.orders(), 1);
+        SheetFolds z = of(ROLL.replace("high 3", "high 5"));
+        due("d would go through the base", z.orders(), 0);
     }
 
     private static void order() {
@@ -610,6 +644,17 @@ public final class PromiseTest {
         due("all stays", x.has(4), 3);
         due("no tools", of(ROLL.replace("tool 6", "tool 5")).mends(), NONE);
         due("one is enough, of like ones the least", of(ROLL.replace("high 3", "high 5")).mends(), 1);
+        String mirrored = HOOK.replace("down", "over").replace("up", "down").replace("over", "up");
+        for (String hook : new String[] {HOOK, mirrored}) {
+            SheetFolds y = of(hook);
+            y.lay(27);
+            due("no order", y.orders(), 0);
+            due("there is just room", y.mends(), 4);
+            y.press(5);
+            due("there is none", y.mends(), NONE);
+            y.undo();
+            due("once more", y.mends(), 4);
+        }
         due("without a part", new SheetFolds().mends(), NONE);
     }
 
@@ -706,6 +751,13 @@ public final class PromiseTest {
         put(x, "\2\1\10");
         x.see();
         due("the higher byte first", x.fits(2, NONE), 0);
+        SheetFolds y = of("sheet thick 1 base 6 6;flange a on base north from 0 wide 6 high 60 up round 1;"
+                + "flange b on a north from 0 wide 6 high 60 up round 1;"
+                + "flange c on b north from 0 wide 6 high 60 up round 1;"
+                + "flange d on c north from 0 wide 6 high 60 up round 1;");
+        put(y, "\4\1\10");
+        y.see();
+        due("264 is 240 and 4 times 6", y.fits(1, 0), 6);
     }
 
     private static void tells() {
@@ -808,6 +860,12 @@ public final class PromiseTest {
         due("flat", x.flat(1, 1), 70);
         due("0", x.allow(2, 0), true);
         due("length", x.flange(2, 9), 4);
+        SheetFolds y = of(HEAP);
+        due("c goes ahead of a, or of b", y.orders(), 4);
+        due("beyond b", y.allow(2, 7), true);
+        due("any order", y.orders(), 6);
+        due("undone", y.undo(), true);
+        due("as it was", y.orders(), 4);
         due("without a part", new SheetFolds().allow(1, 5), false);
     }
 
@@ -843,6 +901,13 @@ public final class PromiseTest {
         SheetFolds y = of(CROSS.replace("tool 3;tool 3;tool 6;", ""));
         due("it can't be", y.chance(1), 0);
         due("an act, all the same", y.has(6), 1);
+        SheetFolds z = of(HEAP);
+        z.lay(4);
+        // the seed 4 becomes 119106029, and 1861031 mod 3 is 2: bend 3
+        z.seed(4);
+        due("it can't be opened", z.chance(1), 4);
+        due("one bend", of("sheet thick 1 base 6 6;tool 6;"
+                + "flange a on base north from 0 wide 6 high 1 up round 1;").chance(1), 1);
     }
 
     private static void undo() {
@@ -879,6 +944,26 @@ public final class PromiseTest {
         }
         due("no more", x.undo(), false);
         due("has(3)", x.has(3), 35);
+        undoneStates();
+    }
+
+    private static void undoneStates() {
+        SheetFolds x = of(ROLL);
+        x.follow(2);
+        x.open(1);
+        x.lay(3);
+        due("orders at 3", x.orders(), 0);
+        due("lay", x.undo(), true);
+        due("has(4)", x.has(4), 4);
+        due("orders at 4", x.orders(), 2);
+        due("open", x.undo(), true);
+        due("has(4)", x.has(4), 5);
+        due("follow", x.undo(), true);
+        due("has(4)", x.has(4), 0);
+        x.turn(3);
+        due("orders with d turned", x.orders(), 6);
+        x.undo();
+        due("orders with d turned back", x.orders(), 4);
     }
 
     private static void seed() {
