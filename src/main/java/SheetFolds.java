@@ -849,6 +849,15 @@ public final class SheetFolds {
             }
         }
 
+        /** Whether there are no tools for a bend that is not made yet. */
+        private boolean needsTools(int made) {
+            boolean needs = false;
+            for (int f = 1; f < count; f++) {
+                needs |= toolSet[f] == 0 && !isIn(f, made);
+            }
+            return needs;
+        }
+
         private int leastWidthWithoutTools() {
             int least = NONE;
             for (int f = 1; f < count; f++) {
@@ -1439,6 +1448,8 @@ public final class SheetFolds {
         private final int[] ways = new int[STATES];
         /** By state and bend: the fewest switches behind that bend, if it is made there. */
         private final int[] switches = new int[STATES * BENDS];
+        /** What tells a switch between bends: their ways, or their tools. */
+        private final int[] kind = new int[BENDS + 1];
         private final int[] best = new int[STATES];
         private final int[] row = new int[BENDS];
         private int rowLength;
@@ -1446,8 +1457,6 @@ public final class SheetFolds {
         private int full;
         private int first;
         private int punch;
-        /** What tells a switch between bends: their ways, or their tools. */
-        private final int[] kind = new int[BENDS + 1];
 
         private void measureRooms(Pose pose, Part part, int ups) {
             full = part.allBends();
@@ -1695,6 +1704,9 @@ public final class SheetFolds {
         private int codeUps;
 
         private int leastTurns(Pose pose, Part part, int made) {
+            if (part.needsTools(made)) {
+                return NONE;
+            }
             if (marks == null) {
                 marks = new byte[POWERS[BENDS]];
             }
@@ -1754,7 +1766,7 @@ public final class SheetFolds {
             int downs = 0;
             pose.place(part, codeMade, codeUps);
             for (int b = 1; b < part.count; b++) {
-                if (!isIn(b, codeMade) && part.toolSet[b] != 0) {
+                if (!isIn(b, codeMade)) {
                     ups |= pose.roomFor(part, b, true) >= part.punch ? bit(b) : 0;
                     downs |= pose.roomFor(part, b, false) >= part.punch ? bit(b) : 0;
                 }

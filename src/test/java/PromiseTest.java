@@ -146,8 +146,10 @@ public final class PromiseTest {
         due("all stays: acts", x.has(6), 1);
         due("the tape goes", x.feed(0, 0, 0, 0, 0), 20);
         x.end(0);
+        due("orders of the one", x.orders(), 2);
         put(x, CROSS);
         due("another part", x.part(), 8);
+        due("orders of the other", x.orders(), 6);
         due("made", x.has(4), 0);
         due("seen", x.has(5), 0);
         due("acts", x.has(6), 0);
@@ -624,6 +626,7 @@ public final class PromiseTest {
 
     private static void turned() {
         SheetFolds x = of(ROLL);
+        due("as it is", x.orders(), 4);
         due("d", x.turned(3), 6);
         due("it stays", x.orders(), 4);
         due("it stays", x.flange(3, 5), 1);
@@ -808,6 +811,7 @@ public final class PromiseTest {
 
     private static void turn() {
         SheetFolds x = of(ROLL);
+        due("as it was", x.orders(), 4);
         due("turned", x.turn(1), true);
         due("down", x.flange(1, 5), 0);
         due("orders", x.orders(), 6);
