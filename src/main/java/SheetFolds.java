@@ -1695,10 +1695,12 @@ public final class SheetFolds {
      */
     private static final class Mender {
         private static final int[] POWERS = {1, 3, 9, 27, 81, 243, 729, 2187, 6561};
-        private static final int REACHED = 1;
-        private static final int CLASHING = 2;
+        private static final int CLASHING = 100;
 
-        /** What is known of each code; made when it is first asked for, since most parts never need it. */
+        /**
+         * Of each code that can be reached one more than the bends that were turned for it, or CLASHING. Made
+         * when it is first asked for, since most parts never need it.
+         */
         private byte[] marks;
         private int codeMade;
         private int codeUps;
@@ -1714,25 +1716,22 @@ public final class SheetFolds {
             int found = NONE;
             int start = codeOf(made, part.ups);
             int codes = POWERS[part.count - 1];
-            marks[start] = (byte) REACHED;
-            for (int code = start; code < codes; code++) {
-                if (marks[code] == REACHED) {
-                    decode(code);
-                    if (codeMade == part.allBends()) {
-                        found = fewer(found, codeUps ^ part.ups);
-                    } else {
-                        spread(pose, part, code);
+            marks[start] = 1;
+            // codes with fewer turns come first, and a code leads to greater ones with as many or one more
+            for (int turns = 0; turns < part.count && found == NONE; turns++) {
+                for (int code = start; code < codes; code++) {
+                    if (marks[code] == turns + 1) {
+                        decode(code);
+                        if (codeMade == part.allBends()) {
+                            int turned = codeUps ^ part.ups;
+                            found = found == NONE ? turned : Math.min(found, turned);
+                        } else {
+                            spread(pose, part, code);
+                        }
                     }
                 }
             }
             return found;
-        }
-
-        private static int fewer(int found, int turns) {
-            if (found == NONE || Integer.bitCount(turns) < Integer.bitCount(found)) {
-                return turns;
-            }
-            return Integer.bitCount(turns) == Integer.bitCount(found) ? Math.min(turns, found) : found;
         }
 
         private static int codeOf(int made, int ups) {
@@ -1785,7 +1784,8 @@ public final class SheetFolds {
             if (marks != null && code < marks.length && marks[code] == 0) {
                 decode(code);
                 pose.place(part, codeMade, codeUps);
-                marks[code] = (byte) (pose.clashes(part.count, 0) != NONE ? CLASHING : REACHED);
+                int turns = Integer.bitCount((codeUps ^ part.ups) & codeMade);
+                marks[code] = (byte) (pose.clashes(part.count, 0) == NONE ? turns + 1 : CLASHING);
             }
         }
     }

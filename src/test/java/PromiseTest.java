@@ -41,8 +41,25 @@ public final class PromiseTest {
             + "flange f on base west from 0 wide 6 high 1 up round 1;"
             + "flange g on f west from 0 wide 6 high 1 up round 1;";
 
+    /** The fifth flange lies over the base when laid flat, and in the plane of the first punch with bend 4. */
+    private static final String LOOP = "sheet thick 1 base 6 6;tool 6;tool 3;tool 2;allow 1 0;allow 2 1;press 1;"
+            + "flange f on base north from 0 wide 6 high 3 up round 2;"
+            + "flange q on f east from 0 wide 3 high 2 up round 1;"
+            + "flange r on q south from 0 wide 2 high 1 up round 1;"
+            + "flange s on r south from 0 wide 2 high 2 up round 1;"
+            + "flange g on s west from 0 wide 2 high 2 up round 1;";
+    /** Rolls up so low that the third punch has room for 1. */
+    private static final String LOW = ROLL.replace("high 4 up round 1;flange c", "high 1 up round 1;flange c")
+            .replace("high 3", "high 1");
+    /** Parts with something of their own each; RandomTest looks at all of them, too. */
+    static final String[] PARTS = {TRAY, ROLL, CROSS, HEAP, BRIDGE, HOOK, LOOP, LOW, mirrored(HOOK)};
+
     private static int wrong;
     private static int promise;
+
+    private static String mirrored(String text) {
+        return text.replace("down", "over").replace("up", "down").replace("over", "up");
+    }
 
     private static void due(String call, long got, long want) {
         if (got != want) {
@@ -87,6 +104,17 @@ public final class PromiseTest {
         due("part() of " + text, x.part(), kind == 0 ? text.chars().filter(c -> c == ';').count() : NONE);
         due("fault(0) of " + text, x.fault(0), kind);
         due("fault(1) of " + text, x.fault(1), place);
+    }
+
+    /** Eight bends of which none hinders another one. */
+    private static String star() {
+        StringBuilder text = new StringBuilder("sheet thick 1 base 60 60;tool 6;");
+        String[] sides = {"north", "east", "south", "west"};
+        for (int i = 0; i < 8; i++) {
+            text.append("flange ").append((char) ('a' + i)).append(" on base ").append(sides[i % 4]);
+            text.append(" from ").append(i / 4 * 20).append(" wide 6 high 4 up round 1;");
+        }
+        return text.toString();
     }
 
     private static void newObject() {
@@ -170,6 +198,7 @@ public final class PromiseTest {
         faulty(" \n ", 1, 3);
         faulty("shee", 1, 0);
         faulty("sheets thick", 1, 0);
+        faulty("xheet thick 1 base 9 8;", 1, 0);
         faulty("Sheet", 1, 0);
         faulty(" \nsheet\nthick 1\n\nbase 9 8 ; ", 0, NONE);
         faulty("sheet thick 01 base 60 60;", 0, NONE);
@@ -199,6 +228,11 @@ public final class PromiseTest {
         faulty(SHEET + "allow 9 60;allow 9 0;", 0, NONE);
         flangeFaults();
         tooMany();
+        SheetFolds cut = new SheetFolds();
+        put(cut, SHEET);
+        cut.end(22);
+        due("a semicolon behind the end", cut.part(), NONE);
+        due("its place", cut.fault(1), 22);
     }
 
     private static void flangeFaults() {
@@ -208,6 +242,9 @@ public final class PromiseTest {
         faulty(SHEET + "flange abcd on", 1, 37);
         faulty(SHEET + "flange abcde on", 1, 34);
         faulty(SHEET + "flange north on", 1, 30);
+        faulty(SHEET + "flange sheet on", 1, 30);
+        faulty(SHEET + "flange round on", 1, 30);
+        faulty(SHEET + "flange a an base", 1, 32);
         faulty(SHEET + "flange northy on", 1, 34);
         faulty(SHEET + "flange nort of", 1, 35);
         faulty(SHEET + "flange a on a ", 3, 35);
@@ -371,6 +408,17 @@ public final class PromiseTest {
                 + "flange d on c east from 0 wide 4 high 1 up round 2;");
         due("not within another piece, either", z.overlap(NONE, 0), 2);
         due("the second pair", z.overlap(1, 1), 4);
+        SheetFolds loop = of(LOOP);
+        due("over the base", loop.overlap(0, 0), 0);
+        due("flange 5", loop.overlap(0, 1), 5);
+        SheetFolds zones = of("sheet thick 1 base 10 10;allow 1 0;allow 3 9;"
+                + "flange a on base north from 0 wide 4 high 8 up round 1;"
+                + "flange c on a east from 0 wide 4 high 4 up round 1;"
+                + "flange d on c east from 0 wide 4 high 1 up round 1;"
+                + "flange b on base north from 6 wide 4 high 8 up round 3;");
+        due("c and d in the zone of b, no zone in it", zones.overlap(NONE, 0), 2);
+        due("d", zones.overlap(1, 0), 3);
+        due("the zone of b", zones.overlap(1, 1), 12);
     }
 
     private static void space() {
@@ -472,6 +520,7 @@ public final class PromiseTest {
         due("just to the base", x.meets(3, 3), 0);
         due("what hangs over", of(ROLL.replace("high 3", "high 5")).meets(1, 6), 8);
         due("what stands on the line", of(BRIDGE).meets(5, 7), 8);
+        due("what stands in its plane", of(LOOP).meets(1, 8), 32);
     }
 
     private static void tools() {
@@ -518,6 +567,20 @@ public final class PromiseTest {
         due("the lowest punch meets what stands on the line", y.orders(), 1);
         SheetFolds z = of(ROLL.replace("high 3", "high 5"));
         due("d would go through the base", z.orders(), 0);
+        SheetFolds low = of(LOW);
+        low.lay(3);
+        due("a punch of 30", low.orders(), 0);
+        low.press(1);
+        due("a punch of 1", low.orders(), 1);
+        low.press(2);
+        due("a punch of 2", low.orders(), 0);
+        SheetFolds less = of(ROLL);
+        less.lay(3);
+        less.spaceBox(0);
+        put(less, "sheet thick 1 base 6 6;tool 6;flange a on base south from 0 wide 6 high 1 up round 1;"
+                + "flange b on base east from 0 wide 6 high 1 up round 1;");
+        less.part();
+        due("what lay there ahead of another part is gone", less.orders(), 2);
     }
 
     private static void order() {
@@ -532,6 +595,8 @@ public final class PromiseTest {
         due("no third", x.order(2), NONE);
         x.lay(3);
         due("no order", x.order(0), NONE);
+        due("the eighth of eight", of(star()).order(7), 8);
+        due("no ninth", of(star()).order(8), NONE);
     }
 
     private static void mayBeLast() {
@@ -606,6 +671,7 @@ public final class PromiseTest {
         }
         due("k -1", x.thrifty(0, -1), NONE);
         due("what 2", x.thrifty(2, 0), NONE);
+        due("the eighth of eight", of(star()).thrifty(0, 7), 8);
         SheetFolds y = of(ROLL);
         y.lay(3);
         due("no order", y.thrifty(0, 0), NONE);
@@ -616,6 +682,9 @@ public final class PromiseTest {
         due("others go", x.tallest(), 99);
         x.lay(3);
         due("down to the base", x.tallest(), 4);
+        SheetFolds low = of(LOW);
+        low.lay(3);
+        due("the least", low.tallest(), 1);
         x.lay(7);
         due("all made", x.tallest(), 99);
         due("no tools", of(ROLL.replace("tool 6", "tool 5")).tallest(), NONE);
@@ -647,8 +716,8 @@ public final class PromiseTest {
         due("all stays", x.has(4), 3);
         due("no tools", of(ROLL.replace("tool 6", "tool 5")).mends(), NONE);
         due("one is enough, of like ones the least", of(ROLL.replace("high 3", "high 5")).mends(), 1);
-        String mirrored = HOOK.replace("down", "over").replace("up", "down").replace("over", "up");
-        for (String hook : new String[] {HOOK, mirrored}) {
+        due("so the other way", of(mirrored(ROLL.replace("high 3", "high 5"))).mends(), 1);
+        for (String hook : new String[] {HOOK, mirrored(HOOK)}) {
             SheetFolds y = of(hook);
             y.lay(27);
             due("no order", y.orders(), 0);
@@ -657,6 +726,8 @@ public final class PromiseTest {
             due("there is none", y.mends(), NONE);
             y.undo();
             due("once more", y.mends(), 4);
+            y.lay(27 + 128);
+            due("with bend 8", y.mends(), 4);
         }
         due("without a part", new SheetFolds().mends(), NONE);
     }
@@ -781,6 +852,10 @@ public final class PromiseTest {
         put(x, "\1\0\1");
         x.see();
         due("no fits", x.tells(1, 0), NONE);
+        SheetFolds y = of(star());
+        put(y, "\1\0\6");
+        y.see();
+        due("eight flanges, none of it", y.tells(9, 0), 1);
     }
 
     private static void bend() {
@@ -845,6 +920,9 @@ public final class PromiseTest {
         due("too many", x.follow(2), NONE);
         due("the last one", x.follow(1), 7);
         due("nothing left", x.follow(1), NONE);
+        SheetFolds y = of(HEAP);
+        y.lay(2);
+        due("c goes ahead of a", y.follow(1), 6);
         x.lay(3);
         due("no order", x.follow(1), NONE);
         due("status(3)", x.status(3), 5);

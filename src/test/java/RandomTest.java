@@ -200,7 +200,24 @@ public final class RandomTest {
             call("thrifty", 1, what);
         }
         call("tallest");
-        call("mends");
+        if (bends < 7) {
+            call("mends");
+        }
+    }
+
+    /** The parts of PromiseTest, each with low punches and a high one, from a few states. */
+    private int runKnown() {
+        for (String text : PromiseTest.PARTS) {
+            put(text);
+            call("part");
+            bends = Math.max(0, plain.has(0) - 1);
+            for (int n = 0; n < (bends > 6 ? 2 : 5); n++) {
+                sweep();
+                call("lay", pick(0, (1 << bends) - 1));
+                call("press", n < 3 ? n + 1 : pick(4, 99));
+            }
+        }
+        return wrong;
     }
 
     private int run(int rounds) {
@@ -233,7 +250,7 @@ public final class RandomTest {
     public static void main(String[] args) {
         int first = args.length > 0 ? Integer.parseInt(args[0]) : 1;
         int runs = args.length > 1 ? Integer.parseInt(args[1]) : 100;
-        int wrong = 0;
+        int wrong = new RandomTest(first).runKnown();
         for (int seed = first; seed < first + runs; seed++) {
             int found = new RandomTest(seed).run(4);
             if (found > 0) {
