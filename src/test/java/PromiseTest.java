@@ -51,8 +51,18 @@ public final class PromiseTest {
     /** Rolls up so low that the third punch has room for 1. */
     private static final String LOW = ROLL.replace("high 4 up round 1;flange c", "high 1 up round 1;flange c")
             .replace("high 3", "high 1");
+    /** As HOOK, but the eighth flange is in the way of the third bend until it is bent up itself. */
+    private static final String KNOT = "sheet thick 1 base 6 6;tool 6;tool 4;tool 2;allow 1 0;press 3;"
+            + "flange a on base north from 0 wide 6 high 4 up round 1;"
+            + "flange c on a north from 0 wide 6 high 4 up round 1;"
+            + "flange d on c north from 0 wide 4 high 2 down round 1;"
+            + "flange s on base south from 0 wide 6 high 5 up round 1;"
+            + "flange t on s south from 0 wide 6 high 3 up round 1;"
+            + "flange e on base east from 1 wide 2 high 3 up round 1;"
+            + "flange f on e east from 0 wide 2 high 2 up round 1;"
+            + "flange m on f east from 0 wide 2 high 2 up round 1;";
     /** Parts with something of their own each; RandomTest looks at all of them, too. */
-    static final String[] PARTS = {TRAY, ROLL, CROSS, HEAP, BRIDGE, HOOK, LOOP, LOW, mirrored(HOOK)};
+    static final String[] PARTS = {TRAY, ROLL, CROSS, HEAP, BRIDGE, HOOK, LOOP, LOW, KNOT, mirrored(HOOK)};
 
     private static int wrong;
     private static int promise;
@@ -726,9 +736,15 @@ public final class PromiseTest {
             due("there is none", y.mends(), NONE);
             y.undo();
             due("once more", y.mends(), 4);
-            y.lay(27 + 128);
-            due("with bend 8", y.mends(), 4);
         }
+        SheetFolds knot = of(KNOT);
+        knot.lay(123);
+        due("no order of the knot", knot.orders(), 0);
+        due("bend 8, then bend 3 turned", knot.mends(), 4);
+        knot.press(4);
+        due("no room for bend 8", knot.mends(), NONE);
+        knot.lay(251);
+        due("bend 8 is made", knot.mends(), 4);
         due("without a part", new SheetFolds().mends(), NONE);
     }
 
