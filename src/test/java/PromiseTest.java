@@ -1,8 +1,5 @@
 /** For each promise of the document what it asks, worked out by hand: usual inputs, edges, wrong ones. */
-public final class PromiseTest {
-    private static final int NONE = SheetFolds.NONE;
-    private static final int NOTHING = SheetFolds.NOTHING;
-    private static final String SHEET = "sheet thick 1 base 9 8;";
+public final class PromiseTest extends Check {
     private static final String TRAY = "sheet thick 2 base 20 10;tool 10;tool 5;allow 1 3;"
             + "flange a on base north from 0 wide 10 high 6 up round 1;"
             + "flange b on base south from 5 wide 10 high 4 down round 2;"
@@ -64,56 +61,8 @@ public final class PromiseTest {
     /** Parts with something of their own each; RandomTest looks at all of them, too. */
     static final String[] PARTS = {TRAY, ROLL, CROSS, HEAP, BRIDGE, HOOK, LOOP, LOW, KNOT, mirrored(HOOK)};
 
-    private static int wrong;
-    private static int promise;
-
     private static String mirrored(String text) {
         return text.replace("down", "over").replace("up", "down").replace("over", "up");
-    }
-
-    private static void due(String call, long got, long want) {
-        if (got != want) {
-            wrong++;
-            System.out.println("promise " + promise + ": " + call + " answered " + got + ", due is " + want);
-        }
-    }
-
-    private static void due(String call, boolean got, boolean want) {
-        due(call, got ? 1 : 0, want ? 1 : 0);
-    }
-
-    private static void put(SheetFolds x, String text) {
-        int whole = (text.length() + 19) / 20 * 20;
-        StringBuilder padded = new StringBuilder(text);
-        while (padded.length() < whole) {
-            padded.append(' ');
-        }
-        for (int i = 0; i < whole; i += 20) {
-            x.feed(four(padded, i), four(padded, i + 4), four(padded, i + 8), four(padded, i + 12), four(padded, i + 16));
-        }
-        x.end(text.length());
-    }
-
-    private static int four(CharSequence s, int i) {
-        return s.charAt(i) << 24 | s.charAt(i + 1) << 16 | s.charAt(i + 2) << 8 | s.charAt(i + 3);
-    }
-
-    private static SheetFolds of(String text) {
-        SheetFolds x = new SheetFolds();
-        put(x, text);
-        if (x.part() == NONE) {
-            wrong++;
-            System.out.println("promise " + promise + ": fault " + x.fault(0) + " at " + x.fault(1) + " in " + text);
-        }
-        return x;
-    }
-
-    private static void faulty(String text, int kind, int place) {
-        SheetFolds x = new SheetFolds();
-        put(x, text);
-        due("part() of " + text, x.part(), kind == 0 ? text.chars().filter(c -> c == ';').count() : NONE);
-        due("fault(0) of " + text, x.fault(0), kind);
-        due("fault(1) of " + text, x.fault(1), place);
     }
 
     /** Eight bends of which none hinders another one. */
@@ -1101,7 +1050,7 @@ public final class PromiseTest {
     }
 
     private static void run(int number) {
-        promise = number;
+        promise(number);
         switch (number) {
             case 1 -> newObject();
             case 2 -> feed();
@@ -1166,9 +1115,6 @@ public final class PromiseTest {
         for (int number = 1; number <= 49; number++) {
             run(number);
         }
-        System.out.println("PromiseTest: " + (wrong == 0 ? "all answers are as due" : wrong + " are not as due"));
-        if (wrong != 0) {
-            System.exit(1);
-        }
+        end("PromiseTest");
     }
 }
