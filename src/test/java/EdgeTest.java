@@ -14,6 +14,14 @@ public final class EdgeTest extends Check {
         document = args.length > 0 && Files.exists(Path.of(args[0])) ? Files.readString(Path.of(args[0])) : "";
         TextEdges.all();
         ShapeEdges.all();
+        OrderEdges.all();
+        ActEdges.all();
+        for (int number = 1; number <= 49; number++) {
+            if (!promises.contains(number)) {
+                wrong++;
+                System.out.println("no edge of promise " + number);
+            }
+        }
         end("EdgeTest");
     }
 }
