@@ -245,6 +245,7 @@ final class ActEdges extends Check {
             refused++;
             stays(x, 2, refused, 2, 2);
         }
+        terms("one that is MADE is opened, if no two FLANGES CLASH then");
         SheetFolds lacking = of(ROLL.replace("tool 6", "tool 5"));
         lacking.lay(7);
         due("without tools", lacking.open(1), true);
@@ -277,8 +278,10 @@ final class ActEdges extends Check {
         SheetFolds none = new SheetFolds();
         due("without a part", none.turn(1), false);
         stays(none, 2, 1, 0, 0);
+        terms("one that is not MADE is turned (up, down)");
         SheetFolds clashing = of(HEAP);
         due("a clash is no matter", clashing.turn(1), true);
+        due("none is made by it", clashing.has(4), 0);
     }
 
     private static void lay() {
@@ -301,6 +304,7 @@ final class ActEdges extends Check {
             refused++;
             stays(x, 2, refused, 4, 3);
         }
+        terms("just some BENDS are MADE, if no two FLANGES CLASH then");
         SheetFolds lacking = of(ROLL.replace("tool 6", "tool 5"));
         due("without tools", lacking.lay(7), true);
         due("back to none", lacking.lay(0), true);
@@ -377,6 +381,7 @@ final class ActEdges extends Check {
         }
         due("allowance(1)", x.allowance(1), 60);
         due("length", x.flange(1, 9), 70);
+        terms("another ALLOWANCE of a RADIUS (it is as told then)");
         due("of no flange, all the same", of(SHEET).allow(1, 3), true);
         SheetFolds heap = of(HEAP.replace("allow 2 1", "allow 2 15"));
         due("a clash is no matter", heap.allow(2, 0), true);
@@ -557,6 +562,20 @@ final class ActEdges extends Check {
         due("none is left", x.undo(), false);
         due("status(4)", x.status(4), 1);
         due("orders, as ahead of all", x.orders(), 4);
+        SheetFolds y = of(ROLL);
+        y.follow(3);
+        y.tallest();
+        y.lay(1);
+        y.turn(2);
+        y.mends();
+        y.allow(1, 9);
+        y.flatBox(0);
+        y.press(2);
+        y.orders();
+        for (int n = 0; n < 5; n++) {
+            due("undo", y.undo(), true);
+        }
+        alike("all undone", y, of(ROLL));
     }
 
     private static void seed() {

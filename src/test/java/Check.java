@@ -1,3 +1,6 @@
+import java.lang.reflect.Method;
+import java.util.Arrays;
+import java.util.List;
 import java.util.TreeSet;
 
 /** What the tests by hand share: texts onto the tape, and answers held against those that are due. */
@@ -100,6 +103,29 @@ abstract class Check {
     static void bad(int kind, String text) {
         int place = text.indexOf('^');
         faulty(text.substring(0, place) + text.substring(place + 1), kind, place);
+    }
+
+    /** All that can be asked about the part of two objects, held against one another. */
+    static void alike(String when, SheetFolds one, SheetFolds other) {
+        for (Method m : SheetFolds.class.getMethods()) {
+            boolean asks = m.getDeclaringClass() == SheetFolds.class && m.getReturnType() == int.class
+                    && !List.of("feed", "part", "fault", "see", "bend", "follow", "chance", "status").contains(m.getName());
+            for (int a = -1; asks && a <= (m.getParameterCount() > 0 ? 17 : -1); a++) {
+                for (int b = -1; b <= (m.getParameterCount() > 1 ? 17 : -1); b++) {
+                    askBoth(when, m, one, other, a, b);
+                }
+            }
+        }
+    }
+
+    private static void askBoth(String when, Method m, SheetFolds one, SheetFolds other, int a, int b) {
+        Object[] all = {a, b};
+        Object[] args = Arrays.copyOf(all, m.getParameterCount());
+        try {
+            due(when + ": " + m.getName() + Arrays.toString(args), (Integer) m.invoke(one, args), (Integer) m.invoke(other, args));
+        } catch (ReflectiveOperationException e) {
+            throw new IllegalStateException(m.getName() + Arrays.toString(args), e);
+        }
     }
 
     static void end(String test) {

@@ -12,6 +12,11 @@ final class OrderEdges extends Check {
             + "flange e on base south from 0 wide 6 high 4 up round 1;"
             + "flange f on e south from 0 wide 6 high 4 up round 1;"
             + "flange g on f south from 0 wide 6 high 3 up round 1;";
+    /** Five bends that roll up below one another. */
+    private static final String SPIRAL = "sheet thick 2 base 4 7;tool 1;press 7;"
+            + "flange a on base south from 0 wide 1 high 2 up round 1;flange b on a south from 0 wide 1 high 5 up round 3;"
+            + "flange c on b south from 0 wide 1 high 2 up round 2;flange d on c south from 0 wide 1 high 6 up round 2;"
+            + "flange e on d south from 0 wide 1 high 7 up round 3;";
     /** Three bends of which none hinders another one: up, down, up; tools 1, 8, 8. */
     private static final String CROSS = "sheet thick 1 base 6 6;tool 4;tool 3;tool 3;tool 6;"
             + "flange a on base north from 0 wide 4 high 2 up round 1;"
@@ -288,6 +293,25 @@ final class OrderEdges extends Check {
         due("a clash by any", of(DEEP).tallest(), NONE);
         due("no tools by any", of(ROLL.replace("tool 6", "tool 5")).tallest(), NONE);
         due("no tools but for what is made", at(ROLL.replace("tool 6", "tool 5"), 7).tallest(), 99);
+        SheetFolds again = at(ROLL, 3);
+        due("down to the base", again.tallest(), 4);
+        again.turn(3);
+        due("turned, away from it", again.tallest(), 99);
+        again.turn(3);
+        due("turned back", again.tallest(), 4);
+        due("along y from 20 to 5", at("sheet thick 1 base 6 20;tool 6;allow 1 0;"
+                + "flange a on base north from 0 wide 6 high 4 up round 1;"
+                + "flange c on a north from 0 wide 6 high 1 up round 1;"
+                + "flange s on base south from 0 wide 6 high 2 up round 1;"
+                + "flange t on s south from 0 wide 6 high 5 up round 1;"
+                + "flange u on t south from 0 wide 6 high 3 down round 1;", 29).tallest(), 15);
+        String over = "sheet thick 1 base 6 6;allow 1 0;tool 6;"
+                + "flange a on base north from 0 wide 6 high 1 up round 1;"
+                + "flange s on base south from 0 wide 3 high 5 up round 1;"
+                + "flange c on s south from 0 wide 3 high 10 up round 1;"
+                + "flange e on c east from 2 wide 4 high 4 up round 1;";
+        due("something is one above its line", at(over, 14).tallest(), 1);
+        due("something stands on its line", at(over.replace("wide 4 high 4", "wide 4 high 5"), 14).tallest(), NONE);
         SheetFolds stands = at("sheet thick 1 base 10 10;tool 10;tool 4;tool 15;allow 1 0;press 1;"
                 + "flange b on base west from 0 wide 10 high 5 up round 1;"
                 + "flange c on b west from 0 wide 10 high 20 up round 1;"
@@ -335,7 +359,19 @@ final class OrderEdges extends Check {
         due("of the others", at(DEEP, 6).mends(), 1);
         due("two", at(TWO_ROLLS, 27).mends(), 36);
         due("one of two rolls", at(TWO_ROLLS, 3).mends(), 4);
+        SheetFolds spiral = of(SPIRAL);
+        due("no order", spiral.orders(), 0);
+        due("not the first alone", spiral.turned(1), 0);
+        due("not the second alone", spiral.turned(2), 0);
+        due("the third alone", spiral.turned(3) > 0, true);
+        due("one with greater bits rather than two", spiral.mends(), 4);
+        spiral.turn(1);
+        spiral.turn(2);
+        due("though the first and the second would do", spiral.mends(), 0);
         due("by none, for its tools", of(ROLL.replace("tool 6", "tool 5")).mends(), NONE);
+        String lacking = "flange e on base east from 0 wide 5 high 1 up round 1;";
+        due("by none, for the tools of the first", of(DEEP.replace("allow 1 0;", "allow 1 0;" + lacking)).mends(), NONE);
+        due("by none, for the tools of the last", of(DEEP + lacking).mends(), NONE);
         due("tools lack for what is made alone", at(DEEP + "flange e on base east from 0 wide 5 high 1 up round 1;", 8)
                 .mends(), 1);
         SheetFolds shut = of("sheet thick 1 base 10 10;tool 4;tool 10;allow 1 0;"

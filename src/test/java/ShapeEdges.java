@@ -123,6 +123,13 @@ final class ShapeEdges extends Check {
                 + "flange d on c south from 0 wide 1 high 1 up round 1;flange e on d south from 0 wide 1 high 1 up round 1;"
                 + "flange f on e south from 0 wide 1 high 1 up round 1;flange g on f south from 0 wide 1 high 1 up round 1;"
                 + "flange h on g south from 0 wide 1 high 1 up round 1;");
+        terms("FLANGE 0 is the BASE, others are numbered from 1 on as told");
+        for (int f = 1; f <= 8; f++) {
+            due("flange(" + f + ", 0)", row.flange(f, 0), f - 1);
+            due("letter(" + f + ", 0)", row.letter(f, 0), f);
+        }
+        terms("LENGTH of a FLANGE: its HEIGHT and ALLOWANCE, and those of all on which it hangs but the BASE.");
+        due("the first of eight", row.flange(1, 9), 3);
         due("seven hang on the first of eight", row.flange(1, 7), 7);
         due("the last of eight hangs on seven", row.flange(8, 8), 7);
         due("all eight lengths", row.flange(8, 9), 24);
@@ -227,6 +234,18 @@ final class ShapeEdges extends Check {
     }
 
     private static void flatCalls() {
+        terms("Laid FLAT the BASE has x from 0 to its width, y from 0 to its height.");
+        dueRow("flat(0", new int[] {0, 0, 60, 1}, what -> of("sheet thick 1 base 60 1;").flat(0, what));
+        dueRow("flat(0", new int[] {0, 0, 1, 60}, what -> of("sheet thick 1 base 1 60;").flat(0, what));
+        terms("Behind its PARENT's SIDE a FLANGE has its ZONE, as long as its RADIUS' ALLOWANCE, behind that it lies itself, HEIGHT"
+                + " long, away from that SIDE; both are WIDTH wide.");
+        SheetFolds far = of("sheet thick 1 base 60 60;allow 1 60;flange a on base east from 59 wide 1 high 60 up round 1;");
+        dueRow("flat(9", new int[] {60, 59, 120, 60}, what -> far.flat(9, what));
+        dueRow("flat(1", new int[] {120, 59, 180, 60}, what -> far.flat(1, what));
+        far.allow(1, 0);
+        dueRow("without allowance flat(9", new int[] {60, 59, 60, 60}, what -> far.flat(9, what));
+        dueRow("without allowance flat(1", new int[] {60, 59, 120, 60}, what -> far.flat(1, what));
+        terms("PIECES are FLANGES and ZONES (8 more than the number of its FLANGE).");
         says(11, "Of a PIECE laid FLAT (FLANGES 0 .. 8, ZONES 9 .. 16): 0, 1 least x, y, 2, 3 greatest x, y.");
         SheetFolds all = of(eight());
         due("flange 8", all.flat(8, 3), 16);
@@ -337,6 +356,12 @@ final class ShapeEdges extends Check {
     }
 
     private static void space() {
+        terms("In SPACE, some BENDS being MADE: the BASE lies at z 0, its normal is z.");
+        SheetFolds alone = of("sheet thick 1 base 60 1;");
+        dueSpace(alone, "the base alone", 0, 3, 0, 0, 0, 60, 1, 0);
+        SheetFolds folded = of(crossOn(1, "down"));
+        folded.lay(15);
+        dueSpace(folded, "all made", 0, 3, 0, 0, 0, 10, 20, 0);
         terms("Of a BEND that is not MADE its FLANGE goes on in the plane of its PARENT, behind ALLOWANCE, as laid FLAT,"
                 + " with the like normal.");
         for (int side = 0; side < 4; side++) {
@@ -740,6 +765,7 @@ final class ShapeEdges extends Check {
         due("made, ahead of tools", lacking.why(3, 7), 1);
         lacking.press(4);
         due("tools, ahead of a clash", lacking.why(3, 3), 2);
+        terms("its PUNCH MEETS no FLANGE, and, it being MADE, too, no two FLANGES CLASH.");
         SheetFolds stands = of(pierce(7, 0, 2, 4));
         stands.press(4);
         due("clear: it just stands on the base", stands.why(3, 3), 0);

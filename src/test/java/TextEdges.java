@@ -197,6 +197,43 @@ final class TextEdges extends Check {
         due("nothing can be undone", z.undo(), false);
         due("nothing is seen", z.fits(1, NONE), NONE);
         due("the refused are still counted", z.status(4), 1);
+        reused();
+    }
+
+    /** An object that held other parts, and read faulty ones, answers all that a new one answers. */
+    private static void reused() {
+        String wide = "sheet thick 9 base 60 60;tool 1;tool 2;tool 5;tool 9;press 99;allow 1 40;allow 2 0;allow 9 1;"
+                + "flange p on base north from 0 wide 9 high 50 up round 1;flange q on p east from 0 wide 50 high 30 up round 9;"
+                + "flange r on base west from 0 wide 50 high 1 down round 2;flange s on r south from 0 wide 1 high 60 up round 2;"
+                + "flange t on base south from 9 wide 5 high 9 up round 9;flange u on t west from 0 wide 9 high 60 up round 1;"
+                + "flange v on base east from 2 wide 5 high 5 up round 2;flange w on v east from 0 wide 5 high 5 up round 3;";
+        String narrow = "sheet thick 1 base 1 1;allow 1 1;flange a on base north from 0 wide 1 high 2 up round 1;"
+                + "flange b on a north from 0 wide 1 high 5 down round 1;flange c on b north from 0 wide 1 high 5 up round 1;";
+        String[] texts = {SHEET, "sheet thick 1 base 60 60;", SHEET + A.replace("up", "down") + "tool 9;",
+            SHEET + A + "tool 5;tool 6;press 3;allow 9 2;flange b on a north from 0 wide 5 high 2 down round 9;",
+            "sheet thick 1 base 3 3;tool 3;flange a on base north from 0 wide 3 high 1 up round 1;", wide, narrow};
+        for (String text : texts) {
+            alike("reused", reused(wide, 21, text), of(text));
+            alike("reused", reused(narrow, 3, text), of(text));
+            alike("reused", reused(narrow, 0, text), of(text));
+        }
+    }
+
+    private static SheetFolds reused(String first, int state, String text) {
+        SheetFolds x = of(first);
+        x.lay(state);
+        x.tallest();
+        put(x, first);
+        x.part();
+        x.lay(state);
+        x.orders();
+        put(x, first + "x");
+        x.part();
+        x.flatBox(0);
+        x.space(1, 0);
+        put(x, text);
+        due("part() behind others", x.part(), text.chars().filter(c -> c == ';').count());
+        return x;
     }
 
     private static void latestFault() {
