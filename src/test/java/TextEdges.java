@@ -437,6 +437,8 @@ final class TextEdges extends Check {
         good("\n sheet \n\n thick\n1  base\n9 \n8\n;\n \ntool\n5 ; \n");
         good(SHEET + "\nflange\na\non\nbase\nnorth\nfrom\n2\nwide\n5\nhigh\n3\nup\nround\n1\n;\n");
         good("sheet thick 1 base 9 8;tool 5;tool 6;" + A);
+        good(SHEET + A.replace(" a ", "\na ") + "flange b on a north from 0 wide 1 high 1 up round 1;");
+        bad(3, SHEET + A.replace(" a ", "\na ") + "flange ^a on base");
         bad(1, "^she et thick 1 base 9 8;");
         bad(1, "sheet thick 1 base 6 1 ^0;");
         for (char c = 0; c < 256; c++) {
