@@ -1,15 +1,9 @@
 import java.lang.reflect.Method;
-import java.util.ArrayList;
 import java.util.Arrays;
-import java.util.List;
 import java.util.Random;
 
 /** Random parts and random calls, each answer of SheetFolds held against that of PlainFolds. */
 public final class RandomTest {
-    private static final String[] SIDES = {"north", "east", "south", "west"};
-    private static final String[] WORDS = {"sheet", "thick", "base", "press", "tool", "allow", "flange", "on",
-        "north", "east", "south", "west", "from", "wide", "high", "up", "down", "round", ";", "a", "b", "abcd",
-        "abcde", "9", "0", "60", "61", "100", "3", " ", "\n", "\t", "A", "#"};
     private static final Object[][] CALLS = {
         {"has", 9}, {"fault", 3}, {"letter", 9, 5}, {"flange", 9, 11}, {"tool", 9}, {"allowance", 11},
         {"flat", 18, 5}, {"flatBox", 6}, {"overlap", 3, 2}, {"space", 10, 7}, {"spaceBox", 4}, {"gap", 9, 9},
@@ -19,9 +13,10 @@ public final class RandomTest {
         {"between", 9, 9}, {"fits", 11, 62}, {"tells", 11, 3}, {"status", 7}};
     private static final Object[][] ACTS = {
         {"bend", 9}, {"bend", 9}, {"open", 9}, {"turn", 9}, {"lay", "state"}, {"follow", 9}, {"allow", 11, 8},
-        {"press", 101}, {"press", 8}, {"chance", 42}, {"undo"}, {"seed", 1000}, {"see"}};
+        {"allow", 11, 62}, {"press", 101}, {"press", 8}, {"chance", 42}, {"undo"}, {"seed", 1000}, {"see"}};
 
     private final Random random;
+    private final RandomParts parts;
     private final SheetFolds folds = new SheetFolds();
     private final PlainFolds plain = new PlainFolds();
     private final StringBuilder told = new StringBuilder();
@@ -30,6 +25,7 @@ public final class RandomTest {
 
     private RandomTest(long seed) {
         random = new Random(seed);
+        parts = new RandomParts(random);
     }
 
     private int pick(int low, int high) {
@@ -72,75 +68,6 @@ public final class RandomTest {
         }
         call("end", text.length());
         told.append("\n  ").append(text);
-    }
-
-    /** Rows of narrow flanges that roll up, so that they clash and meet the punch now and then. */
-    private String partText() {
-        int[] base = {pick(2, 7), pick(2, 7), -1};
-        StringBuilder text = new StringBuilder("sheet thick " + pick(1, 3) + " base " + base[0] + " " + base[1] + ";");
-        List<int[]> flanges = new ArrayList<>(List.of(base));
-        int most = pick(1, 15) == 1 ? 8 : pick(0, 6);
-        boolean[][][] taken = new boolean[9][4][60];
-        for (int tries = 0; tries < 60 && flanges.size() <= most; tries++) {
-            int parent = pick(0, 1) == 0 ? flanges.size() - 1 : pick(0, flanges.size() - 1);
-            int[] p = flanges.get(parent);
-            int side = p[2] >= 0 && pick(0, 3) > 0 ? (p[2] + 2) % 4 : pick(0, 3);
-            int length = side % 2 == 0 ? p[0] : p[1];
-            int from = pick(0, 1) == 0 ? 0 : pick(0, length - 1);
-            int width = pick(0, 1) == 0 ? length - from : pick(1, length - from);
-            boolean free = p[2] != side;
-            for (int i = from; i < from + width; i++) {
-                free &= !taken[parent][side][i];
-            }
-            if (free || pick(0, 300) == 0) {
-                Arrays.fill(taken[parent][side], from, from + width, true);
-                int high = pick(1, 8);
-                flanges.add(side % 2 == 0 ? new int[] {width, high, (side + 2) % 4}
-                        : new int[] {high, width, (side + 2) % 4});
-                text.append("flange ").append(nameOf(flanges.size() - 1)).append(" on ");
-                text.append(parent == 0 ? "base" : nameOf(parent)).append(' ').append(SIDES[side]);
-                text.append(" from ").append(from).append(" wide ").append(width).append(" high ").append(high);
-                text.append(pick(0, 3) > 0 ? " up" : " down").append(" round ").append(pick(1, 3)).append(";\n");
-            }
-        }
-        for (int t = pick(0, 5) == 0 ? pick(0, 3) : pick(4, 8); t > 0; t--) {
-            text.append("tool ").append(t > 4 ? t : 1 << t - 1).append(";");
-        }
-        for (int r = 1; r <= 3; r++) {
-            if (pick(0, 3) > 0) {
-                text.append("allow ").append(r).append(' ').append(pick(0, 2)).append(";");
-            }
-        }
-        if (pick(0, 2) > 0) {
-            text.append("press ").append(pick(1, 12)).append(" ; ");
-        }
-        return text.toString();
-    }
-
-    private static String nameOf(int flange) {
-        return "qwertyuiop".substring(0, 1 + flange % 3) + (char) ('a' + flange);
-    }
-
-    private String spoilt(String text) {
-        StringBuilder s = new StringBuilder(text);
-        for (int n = pick(1, 2); n > 0; n--) {
-            int at = pick(0, s.length());
-            int to = Math.min(s.length(), at + pick(0, 3));
-            switch (pick(0, 3)) {
-                case 0:
-                    s.insert(at, WORDS[pick(0, WORDS.length - 1)]);
-                    break;
-                case 1:
-                    s.replace(at, to, WORDS[pick(0, WORDS.length - 1)]);
-                    break;
-                case 2:
-                    s.delete(at, to);
-                    break;
-                default:
-                    s.setLength(at);
-            }
-        }
-        return s.toString();
     }
 
     private int value(Object bound) {
@@ -222,7 +149,7 @@ public final class RandomTest {
 
     private int run(int rounds) {
         for (int round = 0; round < rounds; round++) {
-            String text = partText();
+            String text = parts.good();
             put(text);
             call("part");
             call("fault", 0);
@@ -236,7 +163,7 @@ public final class RandomTest {
                 callOf(act ? ACTS[pick(0, ACTS.length - 1)] : CALLS[pick(0, CALLS.length - 1)]);
             }
             for (int n = 0; n < 6; n++) {
-                put(spoilt(text));
+                put(parts.spoilt(text));
                 call("part");
                 call("fault", 0);
                 call("fault", 1);
