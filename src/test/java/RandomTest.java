@@ -101,8 +101,8 @@ public final class RandomTest {
         }
     }
 
-    /** What depends on states and on pairs, all of it. */
-    private void sweep() {
+    /** What depends on states, all of it. */
+    private void sweepStates() {
         for (int state = 0; state < 1 << bends; state++) {
             for (int k = -1; k < 3; k++) {
                 call("clash", state, k);
@@ -112,6 +112,10 @@ public final class RandomTest {
                 call("why", b, state);
             }
         }
+    }
+
+    /** What depends on orders from the state there is. */
+    private void sweepOrders() {
         for (int b = 1; b <= bends; b++) {
             call("turned", b);
             call("mayBeLast", b);
@@ -139,7 +143,8 @@ public final class RandomTest {
             call("part");
             bends = Math.max(0, plain.has(0) - 1);
             for (int n = 0; n < (bends > 6 ? 2 : 5); n++) {
-                sweep();
+                sweepStates();
+                sweepOrders();
                 call("lay", pick(0, (1 << bends) - 1));
                 call("press", n < 3 ? n + 1 : pick(4, 99));
             }
@@ -156,7 +161,11 @@ public final class RandomTest {
             call("fault", 1);
             bends = Math.max(0, plain.has(0) - 1);
             if (bends < 6) {
-                sweep();
+                sweepStates();
+            }
+            for (int n = 0; n < 3 && bends < 6; n++) {
+                sweepOrders();
+                call("lay", 1 << pick(0, Math.max(0, bends - 1)));
             }
             for (int n = bends > 6 ? 15 : 50; n > 0; n--) {
                 boolean act = pick(0, 4) == 0;
